@@ -802,8 +802,8 @@ public final class LongSong {
      * has to make what stands from i to j; one piece behind another is the product of their tables.
      */
     private static final class Reading {
-        // Only places i <= j are kept: 25 of them, each with those behind it.
-        private static final int PLACES = ROW + 1, CELLS = PLACES * (PLACES + 1) / 2;
+        // Only places i <= j are kept: 25 of them at most, each with those behind it.
+        private static final int CELLS = (ROW + 1) * (ROW + 2) / 2;
         // A table a scene; above those a pile: one, 28 for brackets that are open, one to work with.
         private static final int PILE = SCENES, TABLES = SCENES + 30;
 
@@ -926,12 +926,16 @@ public final class LongSong {
             addTable(top, sum);
         }
 
-        private static int cell(int table, int i, int j) {
-            return table * CELLS + i * (2 * PLACES + 1 - i) / 2 + j - i;
+        private int cell(int table, int i, int j) {
+            return table * CELLS + i * (2 * length + 3 - i) / 2 + j - i;
+        }
+
+        private int cellsInUse() {
+            return (length + 1) * (length + 2) / 2;
         }
 
         private void clear(int table) {
-            Arrays.fill(cells, table * CELLS, (table + 1) * CELLS, 0);
+            Arrays.fill(cells, table * CELLS, table * CELLS + cellsInUse(), 0);
         }
 
         private void addOne(int table) {
@@ -942,7 +946,8 @@ public final class LongSong {
         }
 
         private void addTable(int into, int other) {
-            for (int c = 0; c < CELLS; c++) {
+            int many = cellsInUse();
+            for (int c = 0; c < many; c++) {
                 int sum = cells[into * CELLS + c] + cells[other * CELLS + c];
                 cells[into * CELLS + c] = Math.min(sum, MANY);
             }
@@ -959,17 +964,23 @@ public final class LongSong {
             }
         }
 
-        /** Cut at MANY everywhere: sums and products of none below 0 then are right up to it. */
         private void multiply(int into, int by) {
             for (int i = 0; i <= length; i++) {
-                // From behind here, too: a cell is made of those of its row that stand ahead of it.
-                for (int j = length; j >= i; j--) {
-                    long ways = 0;
-                    for (int k = i; k <= j; k++) {
-                        ways += (long) cells[cell(into, i, k)] * cells[cell(by, k, j)];
-                    }
-                    cells[cell(into, i, j)] = (int) Math.min(ways, MANY);
+                // From behind here, too: what is made of a cell goes to itself and those behind it.
+                for (int k = length; k >= i; k--) {
+                    int c = cell(into, i, k);
+                    int ways = cells[c];
+                    cells[c] = 0;
+                    if (ways != 0) spread(ways, cell(by, k, k), c, length - k + 1);
                 }
+            }
+        }
+
+        /** Cut at MANY everywhere: sums and products of numbers from 0 on then are right up to it. */
+        private void spread(int ways, int from, int to, int many) {
+            for (int c = 0; c < many; c++) {
+                long sum = cells[to + c] + (long) ways * cells[from + c];
+                cells[to + c] = (int) Math.min(sum, MANY);
             }
         }
     }

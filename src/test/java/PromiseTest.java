@@ -277,6 +277,9 @@ public final class PromiseTest {
     due("heavy beats count", x.swap(0, 1), 2);
     due("mended by the least heavy half", x.told(3, 0), 2);
     due("its other half fits still", x.told(3, 1), 5);
+    due("swap for name 9", x.swap(1, 9), 0);
+    due("swap of name 9", x.swap(9, 8), 0);
+    due("hero 8 then", x.told(0, 3), 8);
     LongSong y = new LongSong();
     y.half(3, 0, 0);
     y.half(6, 0, -1);
@@ -1040,6 +1043,26 @@ public final class PromiseTest {
     x.record(0, 1, 0);
     due("only where a run goes through", x.filled(3, -1, 0), 3);
     due("and what is behind it", x.filled(3, -1, 1), 0);
+    longRecording();
+  }
+
+  private static void longRecording() {
+    LongSong x = singerOf(withSlots("ab"), 0, 2);
+    x.hall(3);
+    tell(x, "A={aaaaaaa(b|a)}");
+    for (int i = 0; i < 24; i++) x.put(i, i % 8 == 7 ? 1 : LOST);
+    due("24 lines", x.record(0, 0, 0), 0);
+    x.put(0, LOST);
+    due("a short one behind it", x.record(0, 0, 0), 1);
+    due("sound", x.heard(0, -1, 0), 1);
+    due("lost ones", x.heard(0, -1, 2), 21);
+    due("lines", x.heard(0, -1, 3), 24);
+    due("the first", x.filled(0, -1, 0), 0);
+    due("the last lost one", x.filled(0, -1, 22), 0);
+    due("the last one", x.filled(0, -1, 23), NONE);
+    due("beyond the last one", x.filled(0, -1, 24), NONE);
+    due("the short one has no run", x.filled(1, -1, 0), STATE);
+    due("beyond it", x.filled(1, -1, 1), NONE);
   }
 
   private static void count() {

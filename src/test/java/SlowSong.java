@@ -499,13 +499,63 @@ final class SlowSong {
     return all;
   }
 
+  /** For rows that are too long to write all out: where texts that begin at a place can end, in how many ways. */
+  Map<Integer, BigInteger> ends(List<Item> list, TreeSet<Integer> stock, List<Integer> told, int from) {
+    Map<Integer, BigInteger> all = new HashMap<>();
+    all.put(from, BigInteger.ONE);
+    for (Item i : list) all = further(all, i, stock, told);
+    return all;
+  }
+
+  Map<Integer, BigInteger> further(Map<Integer, BigInteger> here, Item i, TreeSet<Integer> stock, List<Integer> told) {
+    Map<Integer, BigInteger> next = new HashMap<>();
+    here.forEach((from, n) -> endsOf(i, stock, told, from).forEach(
+        (end, m) -> next.merge(end, n.multiply(m), BigInteger::add)));
+    return next;
+  }
+
+  Map<Integer, BigInteger> endsOf(Item i, TreeSet<Integer> stock, List<Integer> told, int from) {
+    Map<Integer, BigInteger> all = new HashMap<>();
+    if (i.kind() == 's') {
+      int ways = 0;
+      for (int l : ofSlot(stock, i.n())) {
+        if (from < told.size() && (told.get(from) == 40 || told.get(from) == l)) ways++;
+      }
+      if (ways > 0) all.put(from + 1, BigInteger.valueOf(ways));
+      return all;
+    }
+    if (i.kind() == 'S') return ends(scenes.get(i.n()), stock, told, from);
+    if (i.kind() != '(') all.put(from, BigInteger.ONE);
+    Map<Integer, BigInteger> times = ends(i.one(), stock, told, from);
+    int most = i.kind() == '{' ? hall : 1;
+    for (int t = 1; t <= most; t++) {
+      times.forEach((end, n) -> all.merge(end, n, BigInteger::add));
+      if (t == most) break;
+      Map<Integer, BigInteger> more = new HashMap<>();
+      times.forEach((at, n) -> ends(i.one(), stock, told, at).forEach(
+          (end, m) -> more.merge(end, n.multiply(m), BigInteger::add)));
+      times = more;
+    }
+    if (i.kind() == '(') ends(i.two(), stock, told, from).forEach((end, n) -> all.merge(end, n, BigInteger::add));
+    return all;
+  }
+
+  static final int SHORT = 4;
+
+  BigInteger ways(int scene, TreeSet<Integer> stock, List<Integer> told) {
+    if (told.size() > SHORT) {
+      return ends(scenes.get(scene), stock, told, 0).getOrDefault(told.size(), BigInteger.ZERO);
+    }
+    BigInteger sum = BigInteger.ZERO;
+    for (BigInteger n : readBack(scene, stock, told).values()) sum = sum.add(n);
+    return sum;
+  }
+
   int runs(int scene, int singer, int year, int known) {
     if (noScene(scene) || noSinger(singer) || noKnown(known)) return NONE;
     if (noYear(year)) return BAD;
     if (row.isEmpty()) return STATE;
-    BigInteger sum = BigInteger.ZERO;
-    for (BigInteger n : readBack(scene, stockSet(singer, year, known), row).values()) sum = sum.add(n);
-    return sum.min(BigInteger.valueOf(1000000)).intValue();
+    return ways(scene, stockSet(singer, year, known), row).min(BigInteger.valueOf(1000000)).intValue();
   }
 
   int forged(int singer, int year, int known) {
@@ -534,7 +584,7 @@ final class SlowSong {
     if (recording < 0 || recording >= recordings.size() || noKnown(known) || what < 0 || what > 3) return NONE;
     Recording r = recordings.get(recording);
     TreeSet<Integer> stock = stockSet(r.singer(), r.year(), known);
-    if (what == 0) return readBack(r.scene(), stock, r.row()).isEmpty() ? 0 : 1;
+    if (what == 0) return ways(r.scene(), stock, r.row()).signum();
     int lost = 0, lacks = 0;
     for (int l : r.row()) {
       if (l == 40) lost++;
@@ -548,8 +598,15 @@ final class SlowSong {
     Recording r = recordings.get(recording);
     if (place < 0 || place >= r.row().size() || r.row().get(place) != 40) return NONE;
     Set<Integer> there = new HashSet<>();
-    for (List<Integer> made : readBack(r.scene(), stockSet(r.singer(), r.year(), known), r.row()).keySet()) {
-      there.add(made.get(place));
+    TreeSet<Integer> stock = stockSet(r.singer(), r.year(), known);
+    if (r.row().size() <= SHORT) {
+      for (List<Integer> made : readBack(r.scene(), stock, r.row()).keySet()) there.add(made.get(place));
+    } else {
+      for (int l : stock) {
+        List<Integer> with = new ArrayList<>(r.row());
+        with.set(place, l);
+        if (ways(r.scene(), stock, with).signum() > 0) there.add(l);
+      }
     }
     return there.size() == 1 ? there.iterator().next() : STATE;
   }

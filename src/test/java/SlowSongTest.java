@@ -22,6 +22,7 @@ public final class SlowSongTest {
     Check check = new Check("SlowSongTest");
     SlowSongTest test = new SlowSongTest(check, 20261116L);
     for (int k = 0; k < OBJECTS; k++) test.run(k % 3);
+    for (int k = 0; k < OBJECTS; k++) test.readLongSongs();
     check.end();
   }
 
@@ -43,7 +44,7 @@ public final class SlowSongTest {
   private int aScene() { return from(0, 3); }
 
   private void text(StringBuilder out, int depth) {
-    int many = 1 + chance.nextInt(2);
+    int many = 1 + chance.nextInt(depth == 0 ? 6 : 2);
     for (int k = 0; k < many; k++) {
       int kind = chance.nextInt(depth > 2 ? 5 : 10);
       if (kind < 4) out.append((char) ('a' + chance.nextInt(3)));
@@ -57,7 +58,7 @@ public final class SlowSongTest {
   private void tellScene() {
     StringBuilder text = new StringBuilder();
     text.append((char) ('A' + chance.nextInt(4))).append('=');
-    text(text, 0);
+    text(text, chance.nextInt(2));
     if (chance.nextInt(5) == 0) text.deleteCharAt(chance.nextInt(text.length()));
     if (chance.nextInt(5) == 0) {
       text.insert(chance.nextInt(text.length() + 1), "aAbB=[]{}(|)hHiI \0\u00ff".charAt(chance.nextInt(19)));
@@ -93,6 +94,38 @@ public final class SlowSongTest {
       calls += which == 8 ? 9 : 1;
     }
     compareAll();
+  }
+
+  /** One singer who knows a line or two for each slot, and songs as long as they come. */
+  private void readLongSongs() {
+    fast = new LongSong();
+    slow = new SlowSong();
+    fast.half(4, 0, -1);
+    slow.half(4, 0, -1);
+    fast.singer(0);
+    slow.singer(0);
+    for (int l = 0; l < 4; l++) {
+      int slot = l == 3 ? chance.nextInt(3) : l;
+      check.due("line", fast.line(0, 0, slot, 0, 0), slow.line(0, 0, slot, 0, 0));
+      check.due("learn", fast.learn(0, l, -1, l), slow.learn(0, l, -1, l));
+    }
+    int hall = 2 + chance.nextInt(2);
+    check.due("hall", fast.hall(hall), slow.hall(hall));
+    for (int k = 0; k < 5; k++) tellScene();
+    for (int k = 0; k < 12; k++) readLongSong(chance.nextInt(4));
+  }
+
+  private void readLongSong(int scene) {
+    long number = chance.nextLong() >>> 1;
+    check.due("sing", fast.sing(scene, 0, 9, number), slow.sing(scene, 0, 9, number));
+    gather();
+    check.due("runs", fast.runs(scene, 0, 9, -1), slow.runs(scene, 0, 9, -1));
+    int r = slow.record(0, scene, 9), known = 3 + chance.nextInt(2);
+    check.due("record", fast.record(0, scene, 9), r);
+    check.due("heard", fast.heard(r, known, 0), slow.heard(r, known, 0));
+    for (int place = 0; place < slow.row.size(); place++) {
+      check.due("filled", fast.filled(r, known, place), slow.filled(r, known, place));
+    }
   }
 
   private void compareAll() {
@@ -170,21 +203,26 @@ public final class SlowSongTest {
       case 28: b = from(0, slow.recordings.size() - 1); w = from(0, 3);
         check.due("heard", fast.heard(b, k, w), slow.heard(b, k, w)); break;
       case 29: b = from(0, slow.recordings.size() - 1);
-        for (w = -1; w < 5; w++) check.due("filled", fast.filled(b, k, w), slow.filled(b, k, w)); break;
+        for (w = -1; w < 25; w += 1 + Math.max(0, w / 4)) {
+          check.due("filled", fast.filled(b, k, w), slow.filled(b, k, w));
+        }
+        break;
       default: w = from(0, 8); check.due("count", fast.count(w), slow.count(w));
     }
   }
 
-  /** Mostly something that was sung, with gaps; else any lines, no more than four so that SlowSong can follow. */
+  /** Mostly something that was sung, with gaps; else any few lines. */
   private void gather() {
-    int size = chance.nextInt(6) > 0 ? Math.min(4, slow.sung.size()) : 1 + chance.nextInt(4);
+    int size = chance.nextInt(6) > 0 ? Math.min(24, slow.sung.size()) : 1 + chance.nextInt(4);
     boolean likeSung = size > 0 && size <= slow.sung.size() && chance.nextInt(6) > 0;
+    if (!likeSung) size = Math.min(size, SlowSong.SHORT);
+    int gaps = 1 + chance.nextInt(4);
     for (int i = 0; i < size; i++) {
-      int line = chance.nextInt(2) == 0 ? 40 : likeSung ? slow.sung.get(i) : aLine();
+      int line = chance.nextInt(gaps) == 0 ? 40 : likeSung ? slow.sung.get(i) : aLine();
       check.due("put", fast.put(i, line), slow.put(i, line));
     }
-    if (chance.nextInt(10) == 0 && slow.row.size() < 4) {
-      int i = from(0, 3), line = aLine();
+    if (chance.nextInt(10) == 0) {
+      int i = from(0, Math.min(24, slow.row.size() + 1)), line = aLine();
       check.due("put", fast.put(i, line), slow.put(i, line));
     }
   }
