@@ -318,7 +318,7 @@ public final class LongSong {
     }
 
     private static int bit(long set, int at) {
-        return (int) (set >>> at & 1L);
+        return (int) ((set >>> at) & 1L);
     }
 
     /** How many a list has (i -1), or its i-th. */
@@ -407,9 +407,9 @@ public final class LongSong {
             int gap = halfGap[half];
             int heavy = halfHeavy[half];
             if (gap < 0) return heavy;
-            int ahead = heavy & (1 << gap) - 1;
+            int ahead = heavy & ((1 << gap) - 1);
             int behind = heavy >> gap;
-            return ahead | nameHeavy[hero] << gap | behind << gap + nameBeats[hero];
+            return ahead | (nameHeavy[hero] << gap) | (behind << (gap + nameBeats[hero]));
         }
 
         private int lineBeats(int line) {
@@ -420,11 +420,11 @@ public final class LongSong {
         private int lineHeavy(int line) {
             int hero = lineHero[line];
             int firstBeats = sungBeats(lineFirst[line], hero);
-            return sungHeavy(lineFirst[line], hero) | sungHeavy(lineSecond[line], hero) << firstBeats;
+            return sungHeavy(lineFirst[line], hero) | (sungHeavy(lineSecond[line], hero) << firstBeats);
         }
 
         private boolean fitsFirst(int half, int hero) {
-            int must = measure[2] & (1 << measure[0]) - 1;
+            int must = measure[2] & ((1 << measure[0]) - 1);
             return sungBeats(half, hero) == measure[0] && (must & ~sungHeavy(half, hero)) == 0;
         }
 
@@ -531,7 +531,7 @@ public final class LongSong {
 
         private int append(long w, int n) {
             for (int k = n - 1; k >= 0; k--) {
-                tape[tapeSize] = (int) (w >>> 8 * k & 255L);
+                tape[tapeSize] = (int) ((w >>> (8 * k)) & 255L);
                 tapeSize++;
             }
             return tapeSize;
@@ -621,7 +621,7 @@ public final class LongSong {
 
         private boolean standsInAnother(int scene) {
             for (int other = 0; other < SCENES; other++) {
-                if ((uses[other] >> scene & 1) == 1) return true;
+                if (((uses[other] >> scene) & 1) == 1) return true;
             }
             return false;
         }
@@ -632,7 +632,7 @@ public final class LongSong {
             size[scene] = tapeSize;
             uses[scene] = 0;
             for (int at = 2; at < tapeSize; at++) {
-                if (isScene(tape[at])) uses[scene] |= 1 << tape[at] - 'A';
+                if (isScene(tape[at])) uses[scene] |= 1 << (tape[at] - 'A');
             }
             putLast(scene);
         }
@@ -655,7 +655,7 @@ public final class LongSong {
         private int within(int scene) {
             int set = 1 << scene;
             for (int k = told - 1; k >= 0; k--) {
-                if ((set >> order[k] & 1) == 1) set |= uses[order[k]];
+                if (((set >> order[k]) & 1) == 1) set |= uses[order[k]];
             }
             return set;
         }
@@ -843,7 +843,7 @@ public final class LongSong {
         private int ways(int scene) {
             int needed = scenes.within(scene);
             for (int k = 0; k < scenes.told; k++) {
-                if ((needed >> scenes.order[k] & 1) == 1) fillTable(scenes.order[k]);
+                if (((needed >> scenes.order[k]) & 1) == 1) fillTable(scenes.order[k]);
             }
             return cells[cell(scene, 0, length)];
         }
@@ -935,7 +935,8 @@ public final class LongSong {
         }
 
         private void clear(int table) {
-            Arrays.fill(cells, table * CELLS, table * CELLS + cellsInUse(), 0);
+            int many = cellsInUse();
+            for (int c = 0; c < many; c++) cells[table * CELLS + c] = 0;
         }
 
         private void addOne(int table) {
@@ -1031,7 +1032,7 @@ public final class LongSong {
                 int line = which[e];
                 if (who[e] == singer && when[e] <= year && when[e] >= newest[line]) {
                     newest[line] = when[e];
-                    set = learnt[e] ? set | 1L << line : set & ~(1L << line);
+                    set = learnt[e] ? set | (1L << line) : set & ~(1L << line);
                 }
             }
             return set;
