@@ -1,6 +1,7 @@
 /** Counts what was asked and what was wrong, for one test class. */
 final class Check {
   private final String title;
+  private String subject = "";
   private int asked = 0;
   private int wrong = 0;
 
@@ -8,11 +9,16 @@ final class Check {
     this.title = title;
   }
 
+  /** What the checks from here on are about. */
+  void about(String words) {
+    subject = " (" + words + ")";
+  }
+
   void due(String call, long got, long want) {
     asked++;
     if (got != want) {
       wrong++;
-      if (wrong <= 50) System.out.println(title + ": " + call + " answered " + got + ", due is " + want);
+      if (wrong <= 50) System.out.println(title + subject + ": " + call + " answered " + got + ", due is " + want);
     }
   }
 
