@@ -870,13 +870,13 @@ public final class LongSong {
             clear(top);
             addOne(top);
             for (int at = 2; at < scenes.size[scene]; at++) {
-                takeSign(scenes.sign(scene, at));
+                readSign(scenes.sign(scene, at));
             }
             clear(scene);
             addTable(scene, PILE);
         }
 
-        private void takeSign(int sign) {
+        private void readSign(int sign) {
             if (isSlot(sign)) {
                 followBySlot(sign - 'a');
             } else if (isScene(sign)) {
@@ -965,23 +965,21 @@ public final class LongSong {
             }
         }
 
+        /** Cut at MANY everywhere: sums and products of numbers from 0 on then are right up to it. */
         private void multiply(int into, int by) {
             for (int i = 0; i <= length; i++) {
                 // From behind here, too: what is made of a cell goes to itself and those behind it.
                 for (int k = length; k >= i; k--) {
-                    int c = cell(into, i, k);
-                    int ways = cells[c];
-                    cells[c] = 0;
-                    if (ways != 0) spread(ways, cell(by, k, k), c, length - k + 1);
+                    int to = cell(into, i, k);
+                    int from = cell(by, k, k);
+                    int ways = cells[to];
+                    cells[to] = 0;
+                    int many = ways == 0 ? 0 : length - k + 1;
+                    for (int c = 0; c < many; c++) {
+                        long sum = cells[to + c] + (long) ways * cells[from + c];
+                        cells[to + c] = (int) Math.min(sum, MANY);
+                    }
                 }
-            }
-        }
-
-        /** Cut at MANY everywhere: sums and products of numbers from 0 on then are right up to it. */
-        private void spread(int ways, int from, int to, int many) {
-            for (int c = 0; c < many; c++) {
-                long sum = cells[to + c] + (long) ways * cells[from + c];
-                cells[to + c] = (int) Math.min(sum, MANY);
             }
         }
     }

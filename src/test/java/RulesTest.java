@@ -11,7 +11,9 @@ import java.util.Arrays;
 import java.util.Collections;
 import java.util.IdentityHashMap;
 import java.util.List;
+import java.util.Map;
 import java.util.Set;
+import java.util.TreeMap;
 import java.util.TreeSet;
 import java.util.regex.Matcher;
 import java.util.regex.Pattern;
@@ -107,6 +109,30 @@ public final class RulesTest {
     check.holds("Exact", !code.contains("Exact"));
     shortMethods(source);
     madeOnce(code);
+    callsAreNotDeep(code);
+  }
+
+  /** By names alone: each method of the file has a name of its own, so that no path is taken for another's. */
+  private static void callsAreNotDeep(String code) {
+    Map<String, String> bodies = new TreeMap<>();
+    Matcher m = Pattern.compile("(?ms)^( +)(?:public|private) (?:static )?[\\w\\[\\]]+ (\\w+)\\([^;{}]*\\{\\n(.*?)^\\1\\}$")
+        .matcher(code);
+    while (m.find()) check.holds("one method is called " + m.group(2), bodies.put(m.group(2), m.group(3)) == null);
+    check.holds("all methods are found", bodies.size() > 100);
+    for (String method : bodies.keySet()) {
+      check.holds("calls below " + method + " go at most eight deep", depth(method, bodies, 1) <= 8);
+    }
+  }
+
+  private static int depth(String method, Map<String, String> bodies, int level) {
+    int deepest = level;
+    Matcher call = Pattern.compile("\\b(\\w+)\\(").matcher(bodies.get(method));
+    // Beyond eight it is too deep in any case, and in a circle it would never end.
+    while (level <= 8 && call.find()) {
+      if (bodies.containsKey(call.group(1))) deepest = Math.max(deepest, depth(call.group(1), bodies, level + 1));
+      else if (call.group(1).matches("min|bitCount|fill|arraycopy")) deepest = Math.max(deepest, level + 1);
+    }
+    return deepest;
   }
 
   /** Objects are made in the fields and in the constructor of LongSong alone, so that calls make none. */
