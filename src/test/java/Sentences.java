@@ -1,4 +1,5 @@
 import java.util.ArrayList;
+import java.util.Comparator;
 import java.util.List;
 import java.util.function.Consumer;
 
@@ -30,11 +31,12 @@ final class Sentences {
     return told.size();
   }
 
-  /** No promise is left without a sentence. */
+  /** Of a promise nothing but its head is left when the sentences that are tested are taken away. */
   void allPromisesAreTold() {
     check.about("all promises");
     for (int promise = 1; promise <= PROMISES; promise++) {
-      check.holds("promise " + promise + " has a sentence that is tested", isTold(section(promise)));
+      String left = untold(section(promise));
+      check.holds("all of promise " + promise + " is tested: " + left, left.matches("## Promise \\d+: [\\w ]+ `[^`]+`: *"));
     }
   }
 
@@ -44,10 +46,11 @@ final class Sentences {
     return from < 0 || to < 0 ? "" : document.substring(from, to);
   }
 
-  private boolean isTold(String section) {
-    for (String words : told) {
-      if (section.contains(plain(words))) return true;
-    }
-    return false;
+  private String untold(String section) {
+    List<String> longestFirst = new ArrayList<>(told);
+    longestFirst.sort(Comparator.comparingInt(String::length).reversed());
+    String left = section;
+    for (String words : longestFirst) left = left.replace(plain(words), "");
+    return left;
   }
 }

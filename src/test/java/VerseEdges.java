@@ -35,8 +35,8 @@ final class VerseEdges {
         VerseEdges::heavyBitsOfAHalf);
     doc.test("A NAME's BEATS: how many it had. NONE; BAD.", VerseEdges::heavyBitsOfAName);
     doc.test("A LINE more: its number (slip 0, 1). NONE: halves, slot, hero; BAD: slip; FULL.", VerseEdges::lineOrder);
-    doc.test("METRE (what 0, 1 BEATS of the first, second HALF, 2 those that must be heavy, as bits): what it was.",
-        VerseEdges::whatOfTheMetre);
+    doc.test("METRE (what 0, 1 BEATS of the first, second HALF, 2 those that must be heavy, as bits): what it was."
+        + " NONE; BAD.", VerseEdges::whatOfTheMetre);
     doc.test("Of a LINE what 0 the first HALF, 1 the second, 2 SLOT, 3 HERO, 4 SLIP (1, 0), 5 whether it SCANS"
         + " (1, 0), 6 BEATS in all as SUNG, 7 heavy ones as bits. NONE.", VerseEdges::whatOfALine);
     doc.test("TO SWAP: how many were MENDED. NONE; BAD: it is the same NAME.", VerseEdges::namesToSwap);
