@@ -14,6 +14,7 @@ public final class EdgeTest {
     SceneEdges.test(doc);
     SingerEdges.test(doc);
     RecordingEdges.test(doc);
+    doc.allTermsAreTold();
     doc.allPromisesAreTold();
     System.out.println("EdgeTest: " + doc.many() + " sentences");
     check.end();

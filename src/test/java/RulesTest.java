@@ -21,19 +21,15 @@ import java.util.regex.Pattern;
 /** The document's face, and those rules of LANGUAGE.md that can be seen from outside or in the text. */
 public final class RulesTest {
   private static final Check check = new Check("RulesTest");
-  private static final String[] FACE = {
-    "half(int,int,int)", "name(int,int,int)", "line(int,int,int,int,int)", "metre(int,int)", "told(int,int)",
-    "swap(int,int)", "broken(int)", "feed(long,int)", "scene()", "hall(int)", "sing(int,int,int,long)",
-    "sung(int)", "singer(int)", "village(int,int)", "learn(int,int,int,int)", "forget(int,int,int)",
-    "has(int,int,int,int)", "stock(int,int,int)", "unlike(int,int,int,int)", "master(int,int,int)",
-    "lineage(int,int)", "loan(int,int,int,int)", "core(int,int,int)", "whose(int,int,int)", "put(int,int)",
-    "runs(int,int,int,int)", "forged(int,int,int)", "record(int,int,int)", "heard(int,int,int)",
-    "filled(int,int,int)", "count(int)"};
+  private static final int CALLS = 31;
 
   public static void main(String[] args) throws IOException {
-    face();
+    String source = Files.readString(Path.of(args[0]), StandardCharsets.ISO_8859_1);
+    String document = Files.readString(Path.of(args[1]), StandardCharsets.UTF_8);
+    face(faceOf(document));
+    sameWords(document, source);
     insideClasses();
-    sourceText(Files.readString(Path.of(args[0]), StandardCharsets.ISO_8859_1));
+    sourceText(source);
     room();
     check.end();
   }
@@ -47,7 +43,32 @@ public final class RulesTest {
     return text.append(')').toString();
   }
 
-  private static void face() {
+  /** The calls that the document's face has, each as its name and the types that it takes. */
+  private static Set<String> faceOf(String document) {
+    Set<String> calls = new TreeSet<>();
+    Matcher call = Pattern.compile("(?m)^    public int (\\w+)\\(([^)]*)\\);$").matcher(document);
+    while (call.find()) {
+      calls.add(call.group(1) + "(" + call.group(2).replaceAll(" \\w+(?=,|$)", "").replace(", ", ",") + ")");
+    }
+    check.due("calls of the document's face", calls.size(), CALLS);
+    return calls;
+  }
+
+  /** Each row of the document's face stands in the source, its arguments' names and order, too. */
+  private static void sameWords(String document, String source) {
+    int from = document.indexOf("public final class LongSong {");
+    int to = document.indexOf("}", from);
+    int at = 0;
+    for (String row : document.substring(from, to).split("\n")) {
+      String words = row.strip();
+      String wanted = words.endsWith(");") ? words.replace(");", ") {") : words;
+      at = source.indexOf(wanted, at);
+      check.holds("the source has, in the document's order: " + words, at >= 0);
+      if (at < 0) return;
+    }
+  }
+
+  private static void face(Set<String> due) {
     int mods = LongSong.class.getModifiers();
     check.holds("the class is public and final", Modifier.isPublic(mods) && Modifier.isFinal(mods));
     Set<String> seen = new TreeSet<>();
@@ -60,7 +81,7 @@ public final class RulesTest {
       check.holds(m + " is public, of the object, and answers an int", Modifier.isPublic(m.getModifiers())
           && !Modifier.isStatic(m.getModifiers()) && m.getReturnType() == int.class);
     }
-    check.holds("the methods are the document's: " + seen, seen.equals(new TreeSet<>(Arrays.asList(FACE))));
+    check.holds("the methods are the document's: " + seen, seen.equals(due));
     for (Method m : LongSong.class.getDeclaredMethods()) {
       check.holds(m + " bears a public one's name",
           !Modifier.isPrivate(m.getModifiers()) || !publicNames.contains(m.getName()));

@@ -27,6 +27,8 @@ final class SceneEdges {
   }
 
   private static void singing(Sentences doc) {
+    doc.test("A RUN of a SCENE by a STOCK (a set of LINES): ITEMS in order", SceneEdges::itemsInOrder);
+    doc.test("It makes a row of LINES", SceneEdges::itemsInOrder);
     doc.test("of [ ] 0 left out, 1 sung; of { } how often; of ( ) 0 the first, 1 the second; of a SLOT which LINE of"
         + " the STOCK with that SLOT", SceneEdges::choices);
     doc.test("each choice of n ways takes the number's remainder by n, and the number becomes what it is by n, cut",
@@ -42,6 +44,7 @@ final class SceneEdges {
   private static void reading(Sentences doc) {
     doc.test("RUNS of a SCENE by a STOCK that make a told row (24 at most) of LINES", SceneEdges::rowsOfTwentyFour);
     doc.test("some LOST (any LINE of the STOCK)", SceneEdges::lostOnes);
+    doc.test("how many ways to choose there are", SceneEdges::waysToChoose);
     doc.test("(1000000: as many or more;", SceneEdges::aMillion);
     doc.test("ways that make no LINE somewhere are counted as all others", SceneEdges::waysWithoutLines);
   }
@@ -191,6 +194,18 @@ final class SceneEdges {
     x.due(1, "count", 7).due(1, "hall", 1).edges("hall", 0, 0, 3, BAD, 0).due(3, "count", 7);
   }
 
+  private static void itemsInOrder(Run x) {
+    x.lines("abcd").singer(0, 0, 1, 2, 3).scene(0, "A=cd").scene(1, "B=b[A](a|d){c}A");
+    // The choices, too, are met from left to right: [ ] 1, ( ) 1, { } 1.
+    x.due(7, "sing", 1, 0, 0, 7).sung(1, 2, 3, 3, 2, 2, 3).due(4, "sing", 1, 0, 0, 0).sung(1, 0, 2, 3);
+    x.due(6, "sing", 1, 0, 0, 1).sung(1, 2, 3, 0, 2, 3).due(4, "sing", 1, 0, 0, 2).sung(1, 3, 2, 3);
+    x.due(5, "sing", 1, 0, 0, 4).sung(1, 0, 2, 2, 3);
+    x.row(1, 2, 3, 3, 2, 2, 3).due(1, "runs", 1, 0, 0, -1).row(1, 2, 3, 3, 2, 3, 2).due(0, "runs", 1, 0, 0, -1);
+    x.row(1, 0, 2, 3).due(1, "runs", 1, 0, 0, -1).row(0, 1, 2, 3).due(0, "runs", 1, 0, 0, -1);
+    // A stock is a set: what was learnt twice is there once.
+    x.due(5, "learn", 0, 0, -1, 1).scene(2, "C=a").row(LOST).due(1, "runs", 2, 0, 9, -1);
+  }
+
   private static void choices(Run x) {
     x.lines("aabbbc").singer(0, 0, 1, 2, 3, 4).due(1, "hall", 2);
     x.scene(0, "A=[a]b").due(1, "sing", 0, 0, 0, 0).sung(2).due(2, "sing", 0, 0, 0, 1).sung(0, 2);
@@ -292,6 +307,18 @@ final class SceneEdges {
     x.scene(4, "E=C" + "a".repeat(12)).due(STATE, "sing", 4, 0, 0, 0).sung(0, 0, 0);
     x.scene(5, "F=" + "a".repeat(41)).due(STATE, "sing", 5, 0, 0, 0).sung(0, 0, 0);
     x.scene(6, "G=ah").due(STATE, "sing", 6, 0, 0, 0).sung(0, 0, 0);
+  }
+
+  /** Ways that make the same row are as many as there are choices that differ. */
+  private static void waysToChoose(Run x) {
+    x.lines("aab").singer(0, 0, 1, 2).due(1, "hall", 2).row(0);
+    x.scene(0, "A=a").due(1, "runs", 0, 0, 0, -1).scene(0, "A=[a]").due(1, "runs", 0, 0, 0, -1);
+    x.scene(0, "A=[a][a]").due(2, "runs", 0, 0, 0, -1).scene(0, "A=(a|[a])").due(2, "runs", 0, 0, 0, -1);
+    x.scene(0, "A=(a|(a|a))").due(3, "runs", 0, 0, 0, -1).scene(0, "A=([b]|[b])a").due(2, "runs", 0, 0, 0, -1);
+    x.scene(0, "A={a}{a}").due(2, "runs", 0, 0, 0, -1).scene(0, "A={[a]}").due(3, "runs", 0, 0, 0, -1);
+    x.row(LOST).due(6, "runs", 0, 0, 0, -1).scene(0, "A=(a|b)").due(3, "runs", 0, 0, 0, -1);
+    x.scene(0, "A=a[b]").scene(1, "B=A[A]").row(0).due(1, "runs", 1, 0, 0, -1).row(0, LOST, 2);
+    x.due(2, "runs", 1, 0, 0, -1).row(0, LOST).due(3, "runs", 1, 0, 0, -1);
   }
 
   private static void rowsOfTwentyFour(Run x) {

@@ -9,8 +9,11 @@ final class SingerEdges {
     doc.test("SINGERS are numbered from 0 on, 8 at most", SingerEdges::eightSingers);
     doc.test("each with a YEAR of birth (0 .. 999)", SingerEdges::yearsOfBirth);
     doc.test("THE BOOK: an ENTRY (200 at most)", SingerEdges::entriesAtMost);
+    doc.test("a SINGER LEARNS a LINE in a YEAR (from a SINGER, or by itself), or FORGETS it in a YEAR",
+        SingerEdges::learnsOrForgets);
     doc.test("entered one by one, of any YEARS", SingerEdges::anyYears);
     doc.test("as was known behind so many ENTRIES", SingerEdges::behindSoMany);
+    doc.test("each LINE of which", SingerEdges::eachLineAlone);
     doc.test("of the first so many with that YEAR or less", SingerEdges::yearOrLess);
     doc.test("the one of the greatest YEAR (of several the latest entered) is LEARNT", SingerEdges::greatestYear);
     doc.test("UNLIKE are two STOCKS: how many LINES just one of them has", SingerEdges::unlikeStocks);
@@ -50,6 +53,25 @@ final class SingerEdges {
     x.due(FULL, "singer", 92).due(8, "count", 3).due(NONE, "village", 8, 1).due(0, "village", 7, 1);
     x.due(1, "learn", 7, 0, 6, 0).due(NONE, "learn", 8, 0, -1, 0).due(NONE, "learn", 7, 0, 8, 0);
     x.due(7, "master", 6, 999, 0).due(NOBODY, "master", 7, 999, -1);
+  }
+
+  /** From whom it was learnt changes nothing; who has not learnt it can forget it, or be learnt from. */
+  private static void learnsOrForgets(Run x) {
+    x.lines("ab").singer(500).singer(10).singer(10);
+    x.due(1, "learn", 0, 0, 1, 5).due(1, "has", 0, 0, 5, -1).due(0, "has", 1, 0, 999, -1).due(0, "has", 2, 0, 999, -1);
+    x.due(2, "learn", 1, 0, -1, 5).due(1, "has", 1, 0, 5, -1).due(3, "forget", 2, 1, 6).due(0, "has", 2, 1, 999, -1);
+    x.due(4, "learn", 2, 1, 0, 5).due(1, "has", 2, 1, 5, -1).due(0, "has", 2, 1, 6, -1);
+    x.due(5, "forget", 0, 0, 7).due(1, "has", 0, 0, 6, -1).due(0, "has", 0, 0, 7, -1).due(1, "has", 1, 0, 7, -1);
+  }
+
+  /** An entry of one line, or of one singer, says nothing of another. */
+  private static void eachLineAlone(Run x) {
+    x.lines("a".repeat(38)).singer(1).singer(2);
+    for (int l = 0; l < 38; l++) x.due(l + 1, "learn", 0, l, -1, l);
+    x.due(38, "stock", 0, 37, -1).due(37, "stock", 0, 36, -1).due(1, "stock", 0, 0, -1).due(0, "stock", 1, 37, -1);
+    for (int l = 0; l < 38; l += 2) x.due(39 + l / 2, "forget", 0, l, 40);
+    x.due(19, "stock", 0, 40, -1).due(38, "stock", 0, 39, -1).due(38, "stock", 0, 40, 38).due(37, "stock", 0, 40, 39);
+    for (int l = 0; l < 38; l++) x.due(l % 2, "has", 0, l, 40, -1);
   }
 
   private static void yearsOfBirth(Run x) {

@@ -20,6 +20,7 @@ final class VerseEdges {
     doc.test("A LINE SCANS by it", VerseEdges::scansByBeats);
     doc.test("must be heavy", VerseEdges::scansByHeavyOnes);
     doc.test("each LINE of that HERO, by numbers, gets the other one", VerseEdges::swapOfLines);
+    doc.test("if it does not SCAN then, it gets other HALVES (of all that there are)", VerseEdges::allHalvesThereAre);
     doc.test("in place of one or both with which it SCANS: as few other ones as can be", VerseEdges::fewOtherHalves);
     doc.test("of several ways that with the least first HALF, then with the least second one",
         VerseEdges::leastHalves);
@@ -207,6 +208,22 @@ final class VerseEdges {
     x.due(4, "told", 2, 0).due(1, "told", 2, 1);
     x.due(0, "told", 3, 0).due(1, "told", 3, 1);
     x.due(4, "count", 8).due(0, "broken", -1);
+  }
+
+  /** Halves that came behind the line, stand in no line or in another hero's, have a gap: all may come in. */
+  private static void allHalvesThereAre(Run x) {
+    x.due(0, "half", 3, 0, 0).due(1, "half", 6, 0, -1).due(0, "line", 0, 1, 0, 0, 0).due(1, "told", 0, 5);
+    x.due(1, "name", 1, 2, 0).due(0, "swap", 0, 1).due(1, "broken", -1).due(0, "swap", 1, 0).due(1, "told", 0, 5);
+    x.due(2, "half", 2, 0, 1).due(1, "swap", 0, 1).due(2, "told", 0, 0).due(1, "told", 0, 1);
+    // With name 0 half 2 is too short; of those that there are by then half 0 is the least one.
+    x.due(3, "half", 4, 0, -1).due(1, "line", 3, 1, 0, 5, 0).due(1, "swap", 1, 0).due(0, "told", 0, 0);
+    // It scans, so it keeps what it has, though a lesser half would do.
+    x.due(0, "swap", 5, 0).due(3, "told", 1, 0).due(0, "broken", -1);
+    x.due(1, "swap", 0, 1).due(2, "told", 0, 0).due(3, "told", 1, 0).due(2, "count", 8);
+    // A line that did not scan ahead of the swap, but does behind it, is not touched either.
+    Run y = x.another();
+    y.due(0, "half", 4, 0, -1).due(1, "half", 2, 0, 0).due(2, "half", 6, 0, -1).due(1, "name", 1, 2, 0);
+    y.due(0, "line", 1, 2, 0, 0, 0).due(0, "told", 0, 5).due(0, "swap", 0, 1).due(1, "told", 0, 5).due(1, "told", 0, 0);
   }
 
   private static void leastHalves(Run x) {
